@@ -371,6 +371,18 @@ public final class RestTest {
             due.is("what is asked at " + i, again[i], kept[i]);
         }
         // What was done behind the image is not in it.
+        x.day(-1);
+        x.looser(-1, 0);
+        x.looser(1, 9);
+        x.looser(1, 8);
+        x.put(-1);
+        x.second(-1);
+        x.by(-1);
+        x.back();
+        again = probe(x);
+        for (int i = 0; i < kept.length; i++) {
+            due.is("what is asked at " + i, again[i], kept[i]);
+        }
         build(x, 1);
         x.back();
         for (int i = x.about(3); i > 0; i--) {

@@ -152,6 +152,13 @@ public final class TextTest {
         row("loose if 1=1 then 1 else 2;", 1, 26);
         row("loose if 1=1 then 1 end;", 1, 20);
         row("loose if 1=1 1;", 1, 13);
+        row("loose if 1=1;", 1, 12);
+        row("loose if 1=1 then;", 1, 17);
+        row("loose if 1=1 then 1;", 1, 19);
+        row("loose if 1=1 then 1 else;", 1, 24);
+        row("loose if 1;", 1, 10);
+        row("loose if;", 1, 8);
+        row("loose digits (1;", 1, 15);
         row("loose if (1=1) then 1 else 2 end;", 1, 11);
         row("loose if 1=1=1 then 1 else 2 end;", 1, 12);
         row("loose if not (1=1) then 1 else 2 end;", 1, 15);
@@ -174,6 +181,14 @@ public final class TextTest {
         row("night;", 1, 5);
         row("night 1 2;", 1, 8);
         row("nights 1;", 1, 0);
+        for (String letter : new String[] {"a", "z", "A", "Z"}) {
+            row("loose" + letter + " 1;", 1, 0);
+            row("loose 1" + letter + ";", 1, 7);
+        }
+        for (String sign : new String[] {"`", "{", "@", "[", ":", "!", "_", "\u00e9", "\u0000"}) {
+            row("loose" + sign + " 1;", 1, 5);
+            row("loose 1" + sign + ";", 1, 7);
+        }
         row("lift0;;", 1, 6);
         row("to 1;", 1, 0);
         row("1;", 1, 0);
@@ -399,6 +414,13 @@ public final class TextTest {
         value("if 1=1 or 1=1 then 3 else 4 end", 3);
         value("if not 1=1 or 1=1 then 3 else 4 end", 3);
         value("if not 1=2 and 1=2 then 3 else 4 end", 4);
+        for (String holds : new String[] {"1<2", "1<=1", "2>1", "1>=1", "1=1", "1#2", "not 1=2"}) {
+            for (String also : new String[] {"1<2", "1<=1", "2>1", "1>=1", "1=1", "1#2", "not 1=2"}) {
+                value("if " + holds + " and " + also + " then 3 else 4 end", 3);
+                value("if not " + holds + " or not " + also + " then 3 else 4 end", 4);
+                value("if " + holds + " or not " + also + " then 3 else 4 end", 3);
+            }
+        }
         value("if 1+1=2*1 then 3+4 else 4 end*2", 14);
         value("1+if 1=2 then 3 else if 1=1 then 5 else 6 end end+1", 7);
         value("if 1=1 then if 1=2 then 1 else 2 end else 3 end", 2);
@@ -518,5 +540,11 @@ public final class TextTest {
         due.is("text()", Due.text(x, "night 1;"), 1);
         due.is("played(1)", x.played(1), -1);
         due.is("played(1)", x.played(1), 0);
+        Due.text(x, "");
+        Due.text(x, "");
+        due.is("played(3)", x.played(3), -1);
+        due.is("played(4)", x.played(4), -2);
+        due.no("by(4)", x.by(4));
+        due.yes("by(3)", x.by(3));
     }
 }
