@@ -1575,7 +1575,7 @@ public final class MachinesDream {
             int places = 0;
             for (int at = 0; at <= strip.size; at++) {
                 for (int digit = 0; digit < TEN; digit++) {
-                    if ((onward(1 << at, digit, strip, rules) & goal) != 0) {
+                    if ((onwardFrom(at, digit, strip, rules) & goal) != 0) {
                         places |= 1 << at;
                     }
                 }
@@ -1583,19 +1583,22 @@ public final class MachinesDream {
             return places;
         }
 
-        /** All places to which a digit's two words lead from places. */
         private static int onward(int places, int digit, Row strip, int[] rules) {
             int then = 0;
-            int index = ruleIndex(digit, false);
             for (int at = 0; at <= strip.size; at++) {
                 if ((places >> at & 1) == 1) {
-                    int strict = behind(strip, at, rules[index]);
-                    int loose = behind(strip, at, rules[index + 1]);
-                    then |= strict < 0 ? 0 : 1 << strict;
-                    then |= loose < 0 ? 0 : 1 << loose;
+                    then |= onwardFrom(at, digit, strip, rules);
                 }
             }
             return then;
+        }
+
+        /** The places to which a digit's two words lead. */
+        private static int onwardFrom(int at, int digit, Row strip, int[] rules) {
+            int index = ruleIndex(digit, false);
+            int strict = behind(strip, at, rules[index]);
+            int loose = behind(strip, at, rules[index + 1]);
+            return (strict < 0 ? 0 : 1 << strict) | (loose < 0 ? 0 : 1 << loose);
         }
 
         int woven(int a, int b, Row strip) {
