@@ -153,6 +153,9 @@ final class Due {
         }
         all.append('|').append(x.fits()).append(' ').append(x.may(12)).append(' ').append(x.common(NONE));
         all.append(' ').append(x.apart()).append(' ').append(x.add(NONE)).append(' ').append(x.whose()).append('|');
+        for (int i = 0; i < 4; i++) {
+            all.append(x.add(i)).append(x.common(i)).append(' ');
+        }
         for (int k = 0; k < 5; k++) {
             all.append(x.paired(k)).append(x.blocks(k, 0)).append(x.blocks(0, k)).append(' ');
         }
