@@ -355,16 +355,16 @@ public final class EdgeLawTest {
         due.is("five of four", same(9991, 11), 0);
         due.is("three of four", same(9991, 0), 0);
         MachinesDream x = new MachinesDream();
-        Due.text(x, "believes same;");
+        Due.text(x, "believes 5+same;");
         x.by(0);
         x.machine(0, 0);
-        due.is("no ROLL and SUM 0", x.of(0, 6), 0);
+        due.is("no ROLL and SUM 0", x.of(0, 6), 5);
         x.night(1);
-        due.is("a ROLL of 0", x.of(0, 6), 1);
-        x.crank(0, 9);
-        due.is("SUM of one digit", x.of(0, 6), 1);
+        due.is("a ROLL of 0", x.of(0, 6), 6);
+        x.crank(0, 9 - x.of(0, 3));
+        due.is("SUM of one digit", x.of(0, 6), 6);
         x.crank(0, 1);
-        due.is("SUM of two", x.of(0, 6), 0);
+        due.is("SUM of two", x.of(0, 6), 5);
     }
 
     private static void held(String law, int what, int most) {

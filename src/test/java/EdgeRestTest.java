@@ -807,6 +807,31 @@ public final class EdgeRestTest {
             due.is("SUM", x.of(0, 3), k);
         }
         due.is("undo()", x.undo(), -1);
+        imageHasStepsAmongMany();
+    }
+
+    /** So many steps behind the image that none of those it has are left among the latest. */
+    private static void imageHasStepsAmongMany() {
+        for (int ahead : new int[] {3, 33}) {
+            for (int behind : new int[] {1, 28, 45}) {
+                MachinesDream x = new MachinesDream();
+                x.machine(0, 0);
+                for (int k = 0; k < ahead; k++) {
+                    x.crank(0, 1);
+                }
+                x.image();
+                for (int k = 0; k < behind; k++) {
+                    x.crank(0, 100);
+                }
+                x.back();
+                due.is("SUM", x.of(0, 3), ahead);
+                for (int k = Math.min(ahead, 30) - 1; k >= 0; k--) {
+                    due.is("undo() of " + ahead + " and " + behind, x.undo(), k);
+                    due.is("SUM", x.of(0, 3), ahead - Math.min(ahead, 30) + k);
+                }
+                due.is("undo()", x.undo(), -1);
+            }
+        }
     }
 
     private static void imageLeavesTheTape() {

@@ -43,6 +43,7 @@ public final class EdgeStepTest {
         foretoldMachineRange();
         foretoldWhatRange();
         foretoldThoseThatCanPass();
+        foretoldByBrass();
         foretoldChangesNothing();
         due.finish("EdgeStepTest");
     }
@@ -678,6 +679,21 @@ public final class EdgeStepTest {
         due.is("none of one: SUM", x.foretold(1, 0, 0), 12);
         due.is("none of one: no ROLL", x.foretold(1, 0, 2), 0);
         due.is("61 all the same", x.foretold(61, 0, 1), -1);
+    }
+
+    private static void foretoldByBrass() {
+        due.promise("20: as NIGHTS are: by BRASS too");
+        for (int brass : new int[] {0, 2, 3, 6, 9}) {
+            MachinesDream x = Due.drawing(7, 9);
+            x.machine(brass, 0);
+            x.crank(0, 5);
+            x.oil(0, 9);
+            // The draw is 7: below 9 less 0 and less 1, not below 9 less 2.
+            due.is("digits by BRASS " + brass, x.foretold(1, 0, 2), brass < 6 ? 2 : 1);
+            Due.text(x, "wears brass;");
+            x.by(0);
+            due.is("WEAR by BRASS " + brass, x.foretold(1, 0, 1), 1 + brass);
+        }
     }
 
     private static void foretoldChangesNothing() {

@@ -53,6 +53,7 @@ public final class EdgeStripTest {
         grows9999AtMost();
         growsByStrictAlone();
         growsAllDigitsKept();
+        growsTogether();
         growsToNone();
         staysBehindOne();
         staysBehindNine();
@@ -374,6 +375,15 @@ public final class EdgeStripTest {
         x.day(2);
         due.is("FITS, but by 0", x.likeliest(0), -1);
         due.is("by 1 of 10", x.likeliest(1), 0);
+        Due.strips(x, "2222", "");
+        x.day(-1);
+        x.day(22);
+        x.day(2222);
+        due.is("the least above 0: by 1 of 10000", x.likeliest(10), 0);
+        x.day(-1);
+        x.day(2222);
+        due.is("by 1 of 10000", x.likeliest(9), 0);
+        due.is("by 0", x.likeliest(10), -1);
     }
 
     private static void likeliestOfLikeOnes() {
@@ -596,6 +606,11 @@ public final class EdgeStripTest {
         common("90", "09", "0");
         common("1928", "9182", "12");
         common("5153", "1535", "153");
+        // A low digit that is there once can't be taken twice.
+        common("21", "121", "21");
+        common("121", "21", "21");
+        common("9891", "19891", "9891");
+        common("19891", "9891", "9891");
         common("321321", "123123", "121");
         common("432143214321", "123412341234", "12121");
     }
@@ -728,6 +743,20 @@ public final class EdgeStripTest {
         x.rule(0, false, 11);
         due.is("more than 12 of them", x.grows(1, 4), 16);
         due.is("more than four of them go on", x.grows(1, 5), 32);
+    }
+
+    private static void growsTogether() {
+        due.promise("32: digits that become like ones are as many as they were");
+        MachinesDream x = new MachinesDream();
+        x.rule(3, false, 5);
+        x.rule(5, false, 5);
+        due.is("3, 4 and 5 to 4", x.grows(345, 1), 3);
+        due.is("3, 4 and 5 to 4", x.grows(5343, 12), 4);
+        x.rule(4, false, 11 + 44);
+        due.is("3, 4 and 5 to 4 and 44", x.grows(345, 1), 4);
+        due.is("and all of them to 44", x.grows(345, 2), 8);
+        x.rule(6, false, 11 + 43);
+        due.is("6 to 43, 3 to 4", x.grows(633, 2), 2 + 1 + 4);
     }
 
     private static void growsToNone() {

@@ -19,6 +19,7 @@ public final class EdgeTextTest {
         tapeIsEmptyThen();
         tapeStays();
         textOf300Bytes();
+        textsOneByOne();
         emptyTexts();
         faultAheadOfAny();
         faultWhatRange();
@@ -166,6 +167,29 @@ public final class EdgeTextTest {
         row(Due.times(" ", 293) + "lift 4;", 0, 0);
         row(Due.times(" ", 293) + "lift 5;", 2, 298);
         row(Due.times(" ", 299) + ";", 1, 299);
+    }
+
+    /** What was read ahead, with a fault or without, leaves nothing behind. */
+    private static void textsOneByOne() {
+        due.promise("6: the tape is a TEXT: it alone");
+        MachinesDream x = new MachinesDream();
+        x.machine(0, 0);
+        String sum = "0" + Due.times("+0", 140);
+        for (int k = 0; k < 5; k++) {
+            due.is("with a fault", Due.text(x, "loose " + sum + " 1"), -1);
+            due.is("open ones", Due.text(x, "loose ((((((((1"), -1);
+            due.is("clauses", Due.text(x, Due.times("lift 0;", 24) + "lift 0;"), -1);
+        }
+        for (int t = 0; t < 4; t++) {
+            due.is("without", Due.text(x, "wears " + sum + "+" + (t + 3) + ";"), t);
+        }
+        for (int t = 0; t < 4; t++) {
+            x.by(t);
+            due.is("of(0, 7) by " + t, x.of(0, 7), t + 3);
+            due.is("of(0, 5) by " + t, x.of(0, 5), 0);
+            due.is("of(0, 6) by " + t, x.of(0, 6), 2);
+            due.is("played(" + t + ")", x.played(t), -1);
+        }
     }
 
     private static void emptyTexts() {
