@@ -29,6 +29,7 @@ public final class EdgeStripTest {
         fitsOfTheEmptyStrip();
         likeliestRange();
         likeliestNone();
+        likeliestOfDaysAlone();
         likeliestOfLikeOnes();
         addOneAtLeast();
         addTwelveAtMost();
@@ -384,6 +385,24 @@ public final class EdgeStripTest {
         x.day(2222);
         due.is("by 1 of 10000", x.likeliest(9), 0);
         due.is("by 0", x.likeliest(10), -1);
+    }
+
+    private static void likeliestOfDaysAlone() {
+        due.promise("26: of these: no number that isn't a DAY");
+        MachinesDream x = Due.withStrips("0", "");
+        due.is("no DAYS, not 0 either", x.likeliest(0), -1);
+        due.is("fits()", x.fits(), 0);
+        x.day(5);
+        due.is("5 alone", x.likeliest(0), -1);
+        due.is("fits()", x.fits(), 0);
+        x.day(0);
+        due.is("0 told", x.likeliest(0), 1);
+        due.is("fits()", x.fits(), 2);
+        x.day(-1);
+        x.day(0);
+        due.is("0 told first", x.likeliest(0), 0);
+        x.day(-1);
+        due.is("none any more", x.likeliest(0), -1);
     }
 
     private static void likeliestOfLikeOnes() {
