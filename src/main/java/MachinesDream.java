@@ -1136,17 +1136,17 @@ public final class MachinesDream {
             }
             tape.advance();
             clauses[clauseCount * CLAUSE_COLUMNS] = kind;
-            boolean fine = kind < LAWS ? readLaw(kind) : readOrder(kind);
+            boolean fine;
+            if (kind < LAWS) {
+                law = kind;
+                lawFrom[kind] = orderCount;
+                fine = readSum();
+                lawTo[kind] = orderCount;
+            } else {
+                fine = readOrder(kind);
+            }
             clauseCount++;
             return fine && expect(SEMICOLON);
-        }
-
-        private boolean readLaw(int kind) {
-            law = kind;
-            lawFrom[kind] = orderCount;
-            boolean fine = readSum();
-            lawTo[kind] = orderCount;
-            return fine;
         }
 
         private boolean readOrder(int kind) {
